@@ -3,7 +3,7 @@ public final class ModelTest {
     // An object's last calls are left out, so that no step goes beyond its 512th.
     private static final int MOST_CALLS = 512 - 40;
     private static final int SMALL_RUNS = 1500;
-    private static final int LARGE_SYSTEMS = 40;
+    private static final int LARGE_SYSTEMS = 42;
 
     private long seed;
     private int calls = 0;
@@ -19,7 +19,7 @@ public final class ModelTest {
             new ModelTest(run).mixedRun(run % 7);
         }
         for (int run = 0; run < LARGE_SYSTEMS; run++) {
-            new ModelTest(-1L - run).largeSystem(run % 7, 8 + run % 5);
+            new ModelTest(-1L - run).largeSystem(run % 7, 7 + run % 6);
         }
         Checks.end("ModelTest");
     }
