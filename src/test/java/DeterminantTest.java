@@ -40,31 +40,15 @@ public final class DeterminantTest {
         }
     }
 
-    /** Paley's matrix of 12: rows at right angles, so Hadamard's bound is reached. */
-    private static long[][] paley(long plus, long minus) {
-        boolean[] square = new boolean[11];
-        for (int x = 1; x < 11; x++) {
-            square[x * x % 11] = true;
-        }
-        long[][] rows = new long[12][13];
-        for (int i = 0; i < 12; i++) {
-            for (int j = 0; j < 12; j++) {
-                boolean up = i == 0 || i == j || j != 0 && square[(j - i + 11) % 11];
-                rows[i][j] = up ? plus : minus;
-            }
-        }
-        return rows;
-    }
-
     private static void reachesTheLargest() {
-        EquationDesk ones = Checks.desk(paley(1, -1));
+        EquationDesk ones = Checks.desk(Systems.paley(1, -1));
         ones.solve();
         int sign = ones.determinant();
         Checks.dueResult("the determinant of Paley's matrix", ones, 2985984L, 1);
         BigInteger bound = BigInteger.valueOf(2985984L * sign);
-        dueDeterminant("Paley's matrix by MAX", Checks.desk(paley(Long.MAX_VALUE, -Long.MAX_VALUE)),
+        dueDeterminant("Paley's matrix by MAX", Checks.desk(Systems.paley(Long.MAX_VALUE, -Long.MAX_VALUE)),
                 bound.multiply(BigInteger.valueOf(Long.MAX_VALUE).pow(12)));
-        long[][] rows = paley(Long.MAX_VALUE, Long.MIN_VALUE);
+        long[][] rows = Systems.paley(Long.MAX_VALUE, Long.MIN_VALUE);
         for (int i = 0; i < 12; i++) {
             rows[i][12] = rows[i][i % 2];
         }
