@@ -3,8 +3,8 @@ import java.util.List;
 import java.util.function.Consumer;
 
 /**
- * Terms: "A call that throws changes nothing." Each call that can be refused, in
- * states of many kinds, each time on a new desk, which is then asked for all it has.
+ * Terms: "A call that throws changes nothing." Each kind of call that can be refused,
+ * in states of many kinds, each time on a new desk, which is then looked through.
  */
 public final class RefusalEdgeTest {
     private static final int MIN = Integer.MIN_VALUE;

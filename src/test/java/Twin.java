@@ -52,7 +52,7 @@ final class Twin {
         return this;
     }
 
-    /** Everything that can be asked; it ends the use of this twin, for asking changes it. */
+    /** The result, whether it is solved, its size and each place; this ends the twin's use, for asking changes it. */
     void dueAll(String what) {
         dueResult("the result behind " + what);
         dueSolved(what);
