@@ -355,6 +355,7 @@ public final class EquationDesk {
             int low = bitCount % LIMB_BITS;
             int count = Math.max(length - skipped, 0);
             for (int i = 0; i < count; i++) {
+                // With low 0 only bit 31 can be left of it, and the mask takes that away.
                 int upper = limbAt(i + skipped + 1) << (LIMB_BITS - low);
                 limbs[i] = (limbs[i + skipped] >>> low | upper) & LIMB_MASK;
             }

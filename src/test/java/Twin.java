@@ -75,8 +75,8 @@ final class Twin {
         dueBits(what);
     }
 
-    /** The parts too would take more calls than a desk has. */
-    private void dueBits(String what) {
+    /** All parts would take more calls than a desk has. */
+    void dueBits(String what) {
         Checks.due("bits(false) behind " + what, desk.bits(false), model.above.abs().bitLength());
         Checks.due("bits(true) behind " + what, desk.bits(true), model.below.bitLength());
         Checks.due("part(false, 0) behind " + what, desk.part(false, 0), lowPart(model.above.abs()));
