@@ -176,6 +176,21 @@ public final class TermsEdgeTest {
         Checks.dueResult("unknown 0 of the full system", twin.desk, 0, 1);
         Checks.due("unknown(11) of the full system", twin.desk.unknown(11), 1);
         Checks.dueResult("unknown 11 of the full system", twin.desk, 1, 1);
+        dueZeroBehindTwos();
+    }
+
+    /** A 0 divided by a great power of two, where greater numbers stood before: nothing of them may come down. */
+    private static void dueZeroBehindTwos() {
+        for (int twos = 1; twos < 63; twos++) {
+            long power = 1L << twos;
+            EquationDesk desk = Checks.desk(Checks.row(power, power + 1, 0, 5),
+                    Checks.row(power - 1, power, 0, 7), Checks.row(0, 0, 1, 0));
+            desk.solve();
+            Checks.due("unknown(2) behind 2^" + twos, desk.unknown(2), 0);
+            Checks.dueResult("unknown 2 behind 2^" + twos, desk, 0, 1);
+            Checks.due("determinant() behind 2^" + twos, desk.determinant(), 1);
+            Checks.dueResult("the determinant behind 2^" + twos, desk, 1, 1);
+        }
     }
 
     /** "At first 0" */
